@@ -67,7 +67,6 @@ public final class KeyScanner {
         voices.silence();
         for (int key = 0; key < MAX_KEYS; key++) {
             phases[key] = AT_REST;
-            beginnings[key] = 0;
         }
         time = 0;
         strikes = 0;
@@ -684,10 +683,9 @@ public final class KeyScanner {
 
         /** The voice to be taken away, where none is free. */
         int victim() {
-            boolean onlyKept = rule == KEPT_FIRST && inState(KEPT) > 0;
             int best = 0;
             for (int voice = 1; voice < number; voice++) {
-                if (goesBefore(voice, best, onlyKept)) {
+                if (goesBefore(voice, best)) {
                     best = voice;
                 }
             }
@@ -704,8 +702,8 @@ public final class KeyScanner {
             return found;
         }
 
-        private boolean goesBefore(int voice, int other, boolean onlyKept) {
-            if (onlyKept && states[voice] != states[other]) {
+        private boolean goesBefore(int voice, int other) {
+            if (rule == KEPT_FIRST && states[voice] != states[other]) {
                 return states[voice] == KEPT;
             }
             if (rule == BY_VELOCITY && velocities[voice] != velocities[other]) {
