@@ -1,10 +1,16 @@
+import java.io.IOException;
 import java.lang.reflect.Field;
 import java.lang.reflect.Method;
 import java.lang.reflect.Modifier;
+import java.nio.file.Files;
+import java.nio.file.Path;
 import java.util.Set;
 import java.util.TreeSet;
 
-/** The class shows the document's face and no more (LANGUAGE.md, rules 1 and 5). */
+/**
+ * The class shows the document's face and no more (LANGUAGE.md, rules 1 and 5); run from the
+ * project's folder.
+ */
 public final class FaceTest {
     private static final Due CHECK = new Due("FaceTest");
     private static final String[] METHODS = {
@@ -18,7 +24,8 @@ public final class FaceTest {
     private FaceTest() {
     }
 
-    public static void main(String[] args) {
+    public static void main(String[] args) throws IOException {
+        documentsFace();
         constants();
         methods();
         classesInside();
@@ -27,6 +34,22 @@ public final class FaceTest {
 
     private static void is(String what, boolean right) {
         CHECK.due(what, right ? 1 : 0, 1);
+    }
+
+    /** The list above is the document's, in its face as in the promises. */
+    private static void documentsFace() throws IOException {
+        Set<String> face = new TreeSet<>();
+        Set<String> promises = new TreeSet<>();
+        for (String line : Files.readAllLines(Path.of("../shared/DOC.md"))) {
+            String bare = line.replaceAll(" \\w+(?=[,)])", "").replace(", ", ",");
+            if (bare.matches("    public int \\w+\\(.*\\);")) {
+                face.add(bare.substring(11, bare.length() - 1));
+            } else if (bare.matches("`int \\w+\\(.*\\)`")) {
+                promises.add(bare.substring(1, bare.length() - 1));
+            }
+        }
+        is("the document's face is " + face, face.equals(Set.of(METHODS)));
+        is("the promises' signatures are " + promises, promises.equals(Set.of(METHODS)));
     }
 
     private static void constants() {
@@ -50,6 +73,8 @@ public final class FaceTest {
         is("public and final", Modifier.isPublic(KeyScanner.class.getModifiers())
             && Modifier.isFinal(KeyScanner.class.getModifiers()));
         CHECK.due("constructors", KeyScanner.class.getDeclaredConstructors().length, 1);
+        CHECK.due("public ones", KeyScanner.class.getConstructors().length, 1);
+        CHECK.due("parameters", KeyScanner.class.getConstructors()[0].getParameterCount(), 0);
         Set<String> due = new TreeSet<>(Set.of(METHODS));
         Set<String> names = new TreeSet<>();
         for (String text : METHODS) {
